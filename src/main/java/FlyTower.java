@@ -369,12 +369,10 @@ public final class FlyTower {
     // ---- what would be (nothing is changed)
 
     public int secondsFor(int cue) throws IndexOutOfBoundsException {
-        refuseUnlessCue(cue);
         return rehearse(cue);
     }
 
     public int stopsAt(int cue) throws IndexOutOfBoundsException {
-        refuseUnlessCue(cue);
         rehearse(cue);
         return rehearsal.keptBack;
     }
@@ -450,12 +448,6 @@ public final class FlyTower {
         return pieceRow[piece];
     }
 
-    private void refuseUnlessCue(int cue) {
-        if (cue < 0 || cue >= rig.cueCount) {
-            throw new IndexOutOfBoundsException("no such CUE");
-        }
-    }
-
     private void refuseUnlessRunning() {
         if (rig.running == NONE) {
             throw new IllegalStateException("no CUE RUNS");
@@ -486,7 +478,10 @@ public final class FlyTower {
         }
     }
 
-    /** Returns the seconds till the CUE would be over, or NONE; the rehearsal tells then who was kept back. */
+    /**
+     * Returns the seconds till the CUE would be over, or NONE; the rehearsal tells then which BAR was kept back.
+     * Throws IndexOutOfBoundsException if there is no such CUE.
+     */
     private int rehearse(int cue) {
         rehearsal.copyFrom(rig);
         rehearsal.mendBrakes();

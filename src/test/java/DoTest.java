@@ -56,6 +56,16 @@ public final class DoTest {
         other.pass(1);
         CHECK.due("hang: no cue runs", other.many(5), -1);
         CHECK.dueThrow("hang: height above 0", other, Check.STATE, () -> other.hang(0, 0));
+        other.cue(-1);
+        other.move(1, 0, 1, 6, 0);
+        other.cue(-1);
+        other.move(2, 0, 0, 6, 0);
+        other.go(1);
+        other.pass(1);
+        CHECK.dueThrow("hang: height 1", other, Check.STATE, () -> other.hang(0, 0));
+        other.go(2);
+        other.pass(1);
+        CHECK.due("hang: height 0 again", other.hang(0, 0), 1);
     }
 
     private static void takes() {

@@ -27,6 +27,7 @@ public final class SecondTest {
         hurtAtHeads();
         hurtOnlyByComingDown();
         follows();
+        nextOneWasNeverTold();
         followsItself();
         stoppedCueWithoutMovesIsOver();
         allRefusedIsOver();
@@ -566,6 +567,15 @@ public final class SecondTest {
         CHECK.due("follows: no such cue", tower.many(5), -1);
         CHECK.due("follows: elapsed without one", tower.many(7), 0);
         CHECK.due("follows: both over", tower.many(9), 2);
+    }
+
+    private static void nextOneWasNeverTold() {
+        FlyTower tower = new FlyTower();
+        tower.cue(1);
+        tower.go(0);
+        tower.pass(1);
+        CHECK.due("follows: never told", tower.many(5), -1);
+        CHECK.due("follows: never told, over", tower.many(9), 1);
     }
 
     private static void followsItself() {

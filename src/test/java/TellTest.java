@@ -114,6 +114,7 @@ public final class TellTest {
             CHECK.due("move: ofMove(0, 1, " + what + ")", tower.ofMove(0, 1, what), second[what]);
         }
         CHECK.dueThrow("move: that bar again", tower, Check.STATE, () -> tower.move(0, 0, 5, 1, 0));
+        CHECK.dueThrow("move: the bar of the first again", tower, Check.STATE, () -> tower.move(0, 1, 5, 1, 0));
         CHECK.dueThrow("move: that bar again, delay 21", tower, Check.ARGUMENT, () -> tower.move(0, 0, 5, 1, 21));
         tower.cue(-1);
         CHECK.due("move: that bar in another cue", tower.move(1, 0, 5, 1, 0), 0);

@@ -5,18 +5,25 @@ public final class WouldTest {
     public static void main(String[] args) {
         unknown();
         secondsOfMoves();
+        secondsOfMotors();
+        secondsAndPeople();
         secondsInPlaceOfWhatRuns();
         secondsWithWholeBrakes();
         secondsUpTo200();
         stopsAtTheFirst();
+        stopsByDrops();
         stopsOfWhatFollowsDoNotCount();
         hurts();
         hurtsByWhatRuns();
+        hurtsWhileWaiting();
+        hurtsWhileStopped();
         fitsOfOne();
         fitsBehindFormer();
         fitsFromEachFormer();
         fitsNowhere();
         digestByItsWords();
+        digestOfHurts();
+        fullTower();
         CHECK.end();
     }
 
@@ -70,6 +77,30 @@ public final class WouldTest {
         CHECK.due("secondsFor() lets no time go by", tower.many(0), 0);
     }
 
+    private static void secondsOfMotors() {
+        FlyTower tower = new FlyTower();
+        tower.crew(0);
+        tower.bar(true, 100);
+        tower.piece(90, 0, 0);
+        tower.hang(0, 0);
+        tower.cue(-1);
+        tower.move(0, 0, 60, 6, 0);
+        CHECK.due("secondsFor() a motor", tower.secondsFor(0), 10);
+    }
+
+    private static void secondsAndPeople() {
+        FlyTower tower = new FlyTower();
+        tower.bar(true, 100);
+        tower.cue(-1);
+        tower.move(0, 0, 60, 6, 0);
+        tower.below(0, true, false);
+        CHECK.due("secondsFor() above people", tower.secondsFor(0), -1);
+        tower.below(0, true, true);
+        CHECK.due("secondsFor() above people, watched", tower.secondsFor(0), 10);
+        tower.below(0, false, false);
+        CHECK.due("secondsFor() not watched, without people", tower.secondsFor(0), 10);
+    }
+
     private static void secondsInPlaceOfWhatRuns() {
         FlyTower tower = new FlyTower();
         tower.bar(true, 100);
@@ -77,12 +108,12 @@ public final class WouldTest {
         tower.cue(-1);
         tower.move(0, 0, 60, 6, 0);
         tower.cue(-1);
-        tower.move(1, 0, 0, 3, 0);
+        tower.move(1, 0, 0, 3, 2);
         tower.go(0);
         tower.pass(4);
         tower.stop(true);
         CHECK.due("secondsFor() the one that runs, anew", tower.secondsFor(0), 6);
-        CHECK.due("secondsFor() another one", tower.secondsFor(1), 8);
+        CHECK.due("secondsFor() another one", tower.secondsFor(1), 10);
         CHECK.due("secondsFor(): what runs", tower.many(5), 0);
         CHECK.due("secondsFor(): stopped", tower.many(6), 1);
         CHECK.due("secondsFor(): elapsed", tower.many(7), 4);
@@ -153,6 +184,23 @@ public final class WouldTest {
         CHECK.due("stopsAt() bar 0", tower.stopsAt(3), 0);
     }
 
+    private static void stopsByDrops() {
+        FlyTower tower = towerOfBars(90, 90);
+        tower.piece(5, 20, 1);
+        tower.hang(0, 0);
+        tower.cue(-1);
+        tower.move(0, 0, 36, 6, 0);
+        tower.cue(-1);
+        tower.move(1, 1, 60, 6, 0);
+        tower.cue(-1);
+        tower.move(2, 0, 0, 6, 0);
+        CHECK.due("stopsAt() while it touches already", tower.stopsAt(0), -1);
+        tower.go(0);
+        tower.pass(6);
+        CHECK.due("stopsAt() below a drop", tower.stopsAt(1), 1);
+        CHECK.due("stopsAt() with a drop", tower.stopsAt(2), 0);
+    }
+
     private static void stopsOfWhatFollowsDoNotCount() {
         FlyTower tower = towerWithObstacle();
         tower.cue(2);
@@ -207,6 +255,39 @@ public final class WouldTest {
         CHECK.due("wouldHurt(): over", tower.many(9), 0);
         tower.pass(9);
         CHECK.due("they are hurt so", tower.many(13), 6);
+    }
+
+    /** A bar by hand at 12, heavier by 10 than its counter, above people, with a broken brake; cue 1 is told. */
+    private static FlyTower sinking(int delay) {
+        FlyTower tower = new FlyTower();
+        tower.bar(false, 100);
+        tower.piece(10, 0, 0);
+        tower.hang(0, 0);
+        tower.cue(-1);
+        tower.move(0, 0, 12, 6, 0);
+        tower.cue(-1);
+        tower.move(1, 0, 120, 1, delay);
+        tower.go(0);
+        tower.pass(2);
+        tower.below(0, true, true);
+        tower.brake(0, true);
+        return tower;
+    }
+
+    private static void hurtsWhileWaiting() {
+        FlyTower tower = sinking(5);
+        tower.go(1);
+        CHECK.due("wouldHurt() till the delay is over", tower.wouldHurt(20), 5);
+        tower.pass(3);
+        CHECK.due("wouldHurt() in the rest of the delay", tower.wouldHurt(20), 2);
+    }
+
+    private static void hurtsWhileStopped() {
+        FlyTower tower = sinking(0);
+        tower.go(1);
+        CHECK.due("wouldHurt() while it goes up", tower.wouldHurt(20), 0);
+        tower.stop(true);
+        CHECK.due("wouldHurt() while it is stopped", tower.wouldHurt(20), 12);
     }
 
     private static FlyTower towerOfBars(int... limits) {
@@ -289,5 +370,41 @@ public final class WouldTest {
         tower.pass(3);
         CHECK.due("digest()", tower.digest(), Digest.of(tower));
         CHECK.due("digest() again", tower.digest(), Digest.of(tower));
+    }
+
+    private static void digestOfHurts() {
+        FlyTower tower = sinking(0);
+        CHECK.due("digest: hurt in 9", tower.wouldHurt(9), 9);
+        CHECK.due("digest: hurt in 10", tower.wouldHurt(10), 10);
+        CHECK.due("digest() with them", tower.digest(), Digest.of(tower));
+    }
+
+    private static void fullTower() {
+        FlyTower tower = towerOfBars(90, 90, 90, 90, 90, 90, 90, 90);
+        for (int p = 0; p < 10; p++) {
+            tower.piece(p + 1, 6 * p, p % 3);
+            tower.hang(p, p % 8);
+        }
+        for (int c = 0; c < 6; c++) {
+            tower.cue(5 - c);
+            for (int m = 0; m < 6; m++) {
+                tower.move(c, (c + m) % 8, 10 * c + m, 6, m);
+            }
+            tower.go(c);
+            tower.pass(30);
+            if (tower.many(5) != -1) {
+                tower.end();
+            }
+        }
+        int sum = 0;
+        for (int b = 0; b < 8; b++) {
+            sum += tower.ofBar(b, 2);
+        }
+        CHECK.due("full: meanHeight()", tower.meanHeight(), sum / 8.0);
+        CHECK.due("full: fits() of all ten", tower.fits(1023), 0);
+        CHECK.due("full: fits() of the last", tower.fits(512), 1);
+        CHECK.due("full: fits() of thicknesses 0, 1, 0, 1", tower.fits(1 + 2 + 8 + 16), 1 + 4 + 16 + 64);
+        CHECK.due("full: moves", Digest.movesOf(tower, 5), 6);
+        CHECK.due("full: digest()", tower.digest(), Digest.of(tower));
     }
 }

@@ -191,9 +191,9 @@ public final class WouldTest {
         tower.cue(-1);
         tower.move(0, 0, 36, 6, 0);
         tower.cue(-1);
-        tower.move(1, 1, 60, 6, 0);
+        tower.move(1, 1, 60, 5, 0);
         tower.cue(-1);
-        tower.move(2, 0, 0, 6, 0);
+        tower.move(2, 0, 1, 6, 0);
         CHECK.due("stopsAt() while it touches already", tower.stopsAt(0), -1);
         tower.go(0);
         tower.pass(6);

@@ -9,6 +9,12 @@ final class Check {
     }
 
     private int wrong;
+    private String sentence = "";
+
+    /** The sentence of the document that the next answers are due by. */
+    void sentence(String text) {
+        sentence = text;
+    }
 
     void due(String what, long got, long want) {
         if (got != want) {
@@ -51,7 +57,7 @@ final class Check {
 
     void report(String text) {
         wrong++;
-        System.out.println(text);
+        System.out.println(sentence.isEmpty() ? text : text + " [" + sentence + "]");
     }
 
     void end() {
